@@ -172,6 +172,16 @@ public final class ReasonsAccountsAndUndoTest {
         check.due("section", x.chairOf(0, 0), 0);
         check.due("undo", x.undo(), 0);
         check.due("nothing", x.undo(), NOTHING);
+        // A change behind an undone one is undone alone.
+        for (int kind = 0; kind < 2; kind++) {
+            x = Check.league("h05;m050", "h15");
+            x.undo();
+            int answer = kind == 0 ? x.chair(2, 9) : x.musician(2, 9, 0);
+            check.due("brought", answer, 1);
+            check.due("undo", x.undo(), 1);
+            check.due("chairs", x.account(0), 1);
+            check.due("musicians", x.account(1), 1);
+        }
         // Changes by which nothing is different are changes.
         x = Check.league("h05;m050;a");
         x.season();
@@ -283,6 +293,18 @@ public final class ReasonsAccountsAndUndoTest {
         Check.run(x, "h05");
         check.due("restore", x.restore(), 4);
         check.due("chairs", x.account(0), 4);
+        // Others have come in the place of those who were saved.
+        x = Check.league("h37", "m268");
+        x.save();
+        x.undo();
+        x.undo();
+        Check.run(x, "h01;m010");
+        check.due("restore", x.restore(), 1);
+        check.due("section", x.chairOf(0, 0), 3);
+        check.due("need", x.chairOf(0, 1), 7);
+        check.due("section", x.musicianOf(0, 0), 2);
+        check.due("skill", x.musicianOf(0, 1), 6);
+        check.due("demand", x.musicianOf(0, 2), 8);
         ChairLeague empty = new ChairLeague();
         check.due("save", empty.save(), 0);
         empty.chair(0, 5);

@@ -194,6 +194,9 @@ public final class StandsTiersAndPlacesTest {
         // More marks go ahead of comfort.
         Check.run(x, "s0:0;p1;p1;p1;r0");
         dueRanked(x, "0123");
+        // One mark more goes ahead of comfort, too: 13 for chair 0, 12 and a cushion for chair 1.
+        dueRanked(Check.league("h05;h16;m050;m150;a;b1=1;c9;p1"), "01");
+        dueRanked(Check.league("h06;h15;m050;m150;a;b0=1;c9;p1"), "10");
         ChairLeague all = Check.league("h05;h05;h05;h05;h05;h05;h05;h05;h05;h05;m050;s9:0;p1");
         dueRanked(all, "9012345678");
     }

@@ -321,6 +321,13 @@ public final class TextsAndLinesTest {
         Check.run(x, "h25;h25;h25;m250;m251;m250;m250;s0:3;s2:0;b0=8;b3=8;c1");
         Check.run(x, "r3;s1:2;b0=0");
         check.line("as paid", x, x.tellMusicians(), "2$0 .$8 1$8 .$8");
+        // One digit or two, and a bid of 1.
+        x = Check.league("h05;m180;s0:0;p1;b0=1");
+        check.line("10 coins", x, x.tellMusicians(), "0$10!1");
+        Check.run(x, "b0=10;p1");
+        check.line("12 coins", x, x.tellMusicians(), "0$12!10");
+        Check.run(x, "b0=9");
+        check.line("a bid of 9", x, x.tellMusicians(), "0$12!9");
         // The longest line: ten who sit with 99 coins and bid them.
         x = new ChairLeague();
         for (int k = 0; k < 10; k++) {
