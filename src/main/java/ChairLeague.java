@@ -399,7 +399,7 @@ public final class ChairLeague {
         return now.chairs.count;
     }
 
-    // ---- what orders and the calls of the face have in common: they change, or leave all as it was
+    // ---- the changes, for the face and for orders: each is made whole, or leaves all as it was
 
     private int bringChair(int section, int need) {
         if (!isWithin(section, 0, MOST_SECTION) || !isWithin(need, 1, MOST_LEVEL)) {
@@ -581,7 +581,7 @@ public final class ChairLeague {
 
     // ---- answers
 
-    // No change answers below 0 when it succeeds: all codes are below 0.
+    // A change that succeeds never answers below 0, and every code is below 0.
     private int settled(int answer) {
         if (answer >= 0) {
             history.keep();
@@ -967,7 +967,7 @@ public final class ChairLeague {
 
     /** The asking and choosing of a season, worked out without moving anyone. */
     private static final class Asking {
-        // A chair asks each musician once at most, so no more turns or rounds than pairs are needed.
+        // A chair asks each musician once at most: no more turns or rounds than pairs are needed.
         private static final int MOST_ASKED = MOST * MOST;
 
         // By chair: left is the set of those whom it wants and has not asked, bit k for musician k.
