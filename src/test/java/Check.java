@@ -1,9 +1,16 @@
 import java.util.ArrayList;
+import java.util.LinkedHashSet;
 import java.util.List;
+import java.util.Set;
 
 /** Counts answers, and tells those that are not the ones that are due. */
 final class Check {
+    private static final int MOST_TOLD = 50;
+
     private final String name;
+    private final boolean isQuiet = Boolean.getBoolean("quiet");
+    private final Set<String> parts = new LinkedHashSet<>();
+    private final Set<String> wrongParts = new LinkedHashSet<>();
     private int answers;
     private int wrong;
     private String part = "";
@@ -14,6 +21,21 @@ final class Check {
 
     void part(String text) {
         part = text;
+        parts.add(text);
+    }
+
+    /** Begins the test of a sentence of the document, which must stand there word by word. */
+    void sentence(String section, String text) {
+        part(section + ": " + text);
+        due("the document says so", Document.says(section, text) ? 1 : 0, 1);
+    }
+
+    Set<String> parts() {
+        return parts;
+    }
+
+    Set<String> wrongParts() {
+        return wrongParts;
     }
 
     void due(String call, long got, long want) {
@@ -43,6 +65,16 @@ final class Check {
         reasons(call, x, reasonsAndDetails);
     }
 
+    /** A call of a league. */
+    interface Call {
+        int of(ChairLeague x);
+    }
+
+    /** The same, for a call of a league that nobody else asks. */
+    void refused(ChairLeague x, String call, Call made, int... reasonsAndDetails) {
+        refused(call, x, made.of(x), reasonsAndDetails);
+    }
+
     void reasons(String call, ChairLeague x, int... reasonsAndDetails) {
         for (int depth = 0; depth < 3; depth++) {
             boolean isThere = 2 * depth < reasonsAndDetails.length;
@@ -59,6 +91,11 @@ final class Check {
         dueText(call + ", line", lineOf(x), want);
     }
 
+    /** The same, for a league that nobody else asks. */
+    void line(String call, ChairLeague x, Call made, String want) {
+        line(call, x, made.of(x), want);
+    }
+
     static String lineOf(ChairLeague x) {
         StringBuilder text = new StringBuilder();
         for (int k = 0; k < 1000 && x.character(k) != ChairLeague.NONE; k++) {
@@ -70,16 +107,29 @@ final class Check {
     /** All that can be asked of a league without changing it, but for text, line and reasons. */
     static List<Number> allOf(ChairLeague x) {
         List<Number> all = new ArrayList<>();
-        for (int k = 0; k < 10; k++) {
-            for (int what = 0; what < 8; what++) {
-                all.add(x.chairOf(k, what));
-                all.add(x.musicianOf(k, what));
-            }
-        }
         for (int what = 0; what < 12; what++) {
             all.add(x.account(what));
         }
+        int chairs = all.get(0).intValue();
+        for (int k = 0; k < chairs * 8; k++) {
+            all.add(x.chairOf(k / 8, k % 8));
+        }
+        int musicians = all.get(1).intValue();
+        for (int k = 0; k < musicians * 7; k++) {
+            all.add(x.musicianOf(k / 7, k % 7));
+        }
         return all;
+    }
+
+    /** All but the reasons: the text as far as its length, the line, and the changes, too. */
+    static List<Number> wholeOf(ChairLeague x) {
+        List<Number> whole = allOf(x);
+        whole.add(x.account(12));
+        whole.add(x.account(13));
+        for (char code : lineOf(x).toCharArray()) {
+            whole.add((int) code);
+        }
+        return whole;
     }
 
     static void type(ChairLeague x, String text) {
@@ -114,7 +164,8 @@ final class Check {
 
     private void tell(String call, String got, String want) {
         wrong++;
-        if (wrong <= 50) {
+        wrongParts.add(part);
+        if (wrong <= MOST_TOLD && !isQuiet) {
             System.out.println(name + ", " + part + ": " + call + " answered " + got
                     + ", due is " + want);
         }

@@ -2,10 +2,13 @@ import java.util.List;
 
 /** Long runs of calls, which the program and the PlainLeague must answer alike. */
 public final class PlainLeagueTest {
-    private static final int RUNS = 2400;
+    private static final int RUNS = 4800;
     private static final int CALLS = 512;
     private static final Check check = new Check("PlainLeagueTest");
+    // Thirty orders and the ";" behind each take five characters at most, "s0:0;", and then run.
+    private static final int MOST_CALLS_AT_ONCE = 30 * 5 + 1;
     private static long seed;
+    private static int calls;
 
     public static void main(String[] args) {
         for (int run = 0; run < RUNS; run++) {
@@ -50,7 +53,8 @@ public final class PlainLeagueTest {
                         y.musician(section, level, demand));
             }
         }
-        for (int call = begin; call < CALLS; call++) {
+        calls = begin;
+        while (calls < CALLS) {
             if (any(3) > 0) {
                 change(x, y, kind);
             } else {
@@ -85,11 +89,12 @@ public final class PlainLeagueTest {
                 due("rise", a, 0, x.rise(a), y.rise(a));
                 break;
             case 6:
-            case 7: {
+            case 7:
                 due("season", 0, 0, x.season(), y.season());
-                due("restless after it", 0, 0, x.restless(), 0);
+                if (calls < CALLS) {
+                    due("restless after it", 0, 0, x.restless(), 0);
+                }
                 break;
-            }
             case 8:
             case 9:
             case 10: {
@@ -134,7 +139,7 @@ public final class PlainLeagueTest {
     private static void ask(ChairLeague x, PlainLeague y) {
         int a = near(0, 9);
         int b = near(0, 9);
-        switch (any(18)) {
+        switch (any(19)) {
             case 0: {
                 int what = near(0, 7);
                 due("chairOf", a, what, x.chairOf(a, what), y.chairOf(a, what));
@@ -181,15 +186,17 @@ public final class PlainLeagueTest {
                 due("account", what, 0, x.account(what), y.account(what));
                 break;
             }
-            case 16:
-                check.due("isBalanced", x.isBalanced(), 1);
-                check.dueDouble("meanFit", x.meanFit(), y.meanFit());
-                break;
-            default: check.dueDouble("fallenShare", x.fallenShare(), y.fallenShare()); break;
+            case 16: due("isBalanced", 0, 0, x.isBalanced(), 1); break;
+            case 17: dueDouble("meanFit", x.meanFit(), y.meanFit()); break;
+            default: dueDouble("fallenShare", x.fallenShare(), y.fallenShare()); break;
         }
     }
 
     private static void text(ChairLeague x, PlainLeague y) {
+        if (calls + MOST_CALLS_AT_ONCE > CALLS) {
+            due("run", 0, 0, x.run(), y.run());
+            return;
+        }
         StringBuilder text = new StringBuilder();
         int orders = any(12) == 0 ? 1 + any(30) : 1 + any(5);
         for (int k = 0; k < orders; k++) {
@@ -229,7 +236,13 @@ public final class PlainLeagueTest {
         }
     }
 
+    private static void dueDouble(String call, double got, double want) {
+        calls++;
+        check.dueDouble(call, got, want);
+    }
+
     private static void due(String call, int a, int b, int got, int want) {
+        calls++;
         check.due(call + "(" + a + ", " + b + ")", got, want);
     }
 }

@@ -211,20 +211,29 @@ public final class ReasonsAccountsAndUndoTest {
     }
 
     private static void undoOfCalls(String before) {
-        ChairLeague x = Check.league(before);
         List<List<Number>> states = new ArrayList<>();
         for (int change = 0; change < 10; change++) {
-            states.add(Check.allOf(x));
-            int answer = call(x, change);
-            check.due("change " + change, answer >= 0 ? 1 : 0, 1);
+            states.add(Check.allOf(changed(before, change)));
+        }
+        // One undo more on each of these, as a league is asked no more than 512 times.
+        for (int undone = 1; undone <= 8; undone++) {
+            ChairLeague x = changed(before, 10);
+            for (int k = 1; k <= undone; k++) {
+                check.due("undo", x.undo(), 8 - k);
+            }
+            check.due(undone + " are undone",
+                    states.get(10 - undone).equals(Check.allOf(x)) ? 1 : 0, 1);
+            check.due("another", x.undo(), undone < 8 ? 7 - undone : NOTHING);
+        }
+    }
+
+    private static ChairLeague changed(String before, int changes) {
+        ChairLeague x = Check.league(before);
+        for (int change = 0; change < changes; change++) {
+            check.due("change " + change, call(x, change) >= 0 ? 1 : 0, 1);
             check.due("changes", x.account(13), Math.min(change + 2, 8));
         }
-        for (int change = 9; change > 1; change--) {
-            check.due("undo", x.undo(), change - 2);
-            check.due("change " + change + " is undone",
-                    states.get(change).equals(Check.allOf(x)) ? 1 : 0, 1);
-        }
-        check.due("nothing", x.undo(), NOTHING);
+        return x;
     }
 
     private static int call(ChairLeague x, int change) {
