@@ -260,8 +260,9 @@ public final class BoundariesOfOrdersTest {
 
         sentence("9, there are too few coins: how many");
         x = Check.league("h05;m040;a;b0=3");
-        check.due("8 are enough", x.bid(0, 8), 3);
         check.refused("9 are not", x, x.bid(0, 9), 9, 8);
+        check.due("8 are enough", x.bid(0, 8), 3);
+        check.refused("99 are not", x, x.bid(0, 99), 9, 8);
         Check.run(x, "p1;u0;p1;u0;p1;u0;p1;u0;p1");
         check.due("2 are enough", x.raise(0), 0);
         x.concert(1);
@@ -327,6 +328,9 @@ public final class BoundariesOfOrdersTest {
         check.refused("NONE", x, Check.run(x, "a;a;r1"), 15, 2);
         check.refused("two behind", x, Check.run(x, "a;s0:0"), 15, 1, 2, 0, 7, 0);
         check.refused("BAD", x, Check.run(x, "p5"), 15, 0);
+        x = Check.league("h05;h05;m051;m190");
+        check.refused("each with its detail", x, Check.run(x, "a;a;s1:1"), 15, 2, 2, 1, 6, 5);
+        x = Check.league("h05;m051");
         // The details are those of the orders ahead, though these are taken back.
         check.refused("as it was then", x, Check.run(x, "h15;m150;s1:1;s0:0;r0"),
                 15, 3, 2, 0, 7, 0);
@@ -446,10 +450,16 @@ public final class BoundariesOfOrdersTest {
         dueCode("chair", few, BAD, x -> x.chair(4, 5));
         dueCode("chair", full, REFUSED, x -> x.chair(0, 5));
         dueCode("musician", few, BAD, x -> x.musician(0, 5, 10));
+        dueCode("musician", "m050;m050;m050;m050;m050;m050;m050;m050;m050;m050", REFUSED,
+                x -> x.musician(0, 5, 0));
         dueCode("chairOf", few, BAD, x -> x.chairOf(0, 8));
         dueCode("fit", few, NONE, x -> x.fit(0, 2));
         dueCode("seat", few, NONE, x -> x.seat(1, 0));
         dueCode("seat", few, REFUSED, x -> x.seat(0, 1));
+        dueCode("seat", "h05;h05;m050;a", REFUSED, x -> x.seat(1, 0));
+        dueCode("seat", "h05;m051", REFUSED, x -> x.seat(0, 0));
+        dueCode("seat", "h05;m190", REFUSED, x -> x.seat(0, 0));
+        dueCode("seat", "h09;m080;a;p3", REFUSED, x -> x.seat(0, 0));
         dueCode("rise", few, NONE, x -> x.rise(2));
         dueCode("rise", few, REFUSED, x -> x.rise(1));
         dueCode("would", few, NONE, x -> x.would(1));
@@ -465,6 +475,8 @@ public final class BoundariesOfOrdersTest {
         dueCode("lasts", few, NOTHING, x -> x.lasts(1));
         dueCode("raise", few, NONE, x -> x.raise(1));
         dueCode("raise", few, REFUSED, x -> x.raise(0));
+        dueCode("raise", "h05;m040;a;p1;u0;p1;u0;p1;u0;p1;u0;p1;u0;p1", REFUSED, x -> x.raise(0));
+        dueCode("promote", "h05;m050;a;p1;p1;p1;p1;t0;t0", REFUSED, x -> x.promote(0));
         dueCode("promote", few, NONE, x -> x.promote(1));
         dueCode("promote", few, REFUSED, x -> x.promote(0));
         dueCode("append", few, BAD, x -> x.append(31));

@@ -152,7 +152,9 @@ public final class BoundariesOfPromisesTest {
     }
 
     private static void chairOf() {
-        sentence(4, "7 for its musician, NOTHING if it has none");
+        sentence(4, "0 for its section, 1 for its need, 2 for its cushion, 3 for its stand, 4 for "
+                + "its tier, 5 for its comfort, 6 for its marks, 7 for its musician, NOTHING if it "
+                + "has none");
         ChairLeague x = Check.league("h05;h05;m050");
         check.due("none", x.chairOf(0, 7), NOTHING);
         x.seat(0, 0);
@@ -162,6 +164,15 @@ public final class BoundariesOfPromisesTest {
         check.due("none", x.chairOf(0, 7), NOTHING);
         x = Check.league("h09;m080;a;p3");
         check.due("fallen", x.chairOf(0, 7), NOTHING);
+        // The most, and the least but for the musician.
+        x = Check.league(NINE_CHAIRS + ";h39", NINE_MUSICIANS + ";m390", "s9:9;b9=1;c9",
+                "p1;p1;p1;p1;t9;t9;p4");
+        int[] most = {3, 9, 9, 2, 2, 15, 65, 9};
+        int[] least = {0, 5, 0, 3, 0, 0, 0, NOTHING};
+        for (int what = 0; what < 8; what++) {
+            check.due("the most, " + what, x.chairOf(9, what), most[what]);
+            check.due("the least, " + what, x.chairOf(0, what), least[what]);
+        }
 
         sentence(4, "Returns the number; NONE if there is no such chair; BAD if what is not from 0 "
                 + "to 7.");
@@ -178,8 +189,9 @@ public final class BoundariesOfPromisesTest {
     }
 
     private static void musicianOf() {
-        sentence(5, "5 for the chair, NOTHING for one who does not sit, 6 for the concerts played "
-                + "so far");
+        sentence(5, "0 for the section, 1 for the skill, 2 for the demand, 3 for the coins, 4 for "
+                + "the bid, 5 for the chair, NOTHING for one who does not sit, 6 for the concerts "
+                + "played so far");
         ChairLeague x = Check.league("h05;m040;m050");
         check.due("does not sit", x.musicianOf(0, 5), NOTHING);
         check.due("no concerts", x.musicianOf(0, 6), 0);
@@ -187,11 +199,18 @@ public final class BoundariesOfPromisesTest {
         check.due("chair 0", x.musicianOf(0, 5), 0);
         x.concert(1);
         check.due("one", x.musicianOf(0, 6), 1);
-        x.concert(3);
-        check.due("the one by which the chair falls", x.musicianOf(0, 6), 2);
+        x.concert(1);
+        check.due("two", x.musicianOf(0, 6), 2);
+        x.concert(1);
+        check.due("the one by which the chair falls", x.musicianOf(0, 6), 3);
         check.due("does not sit", x.musicianOf(0, 5), NOTHING);
         check.due("who never sat", x.musicianOf(1, 6), 0);
         check.due("who never sat", x.musicianOf(1, 5), NOTHING);
+        x = Check.league(NINE_CHAIRS + ";h39", NINE_MUSICIANS + ";m390", "s9:9;p1;b9=12");
+        int[] numbers = {3, 9, 0, 12, 12, 9, 1};
+        for (int what = 0; what < 7; what++) {
+            check.due("the last of ten, " + what, x.musicianOf(9, what), numbers[what]);
+        }
 
         sentence(5, "Returns the number; NONE if there is no such musician; BAD if what is not from "
                 + "0 to 6.");
@@ -289,6 +308,20 @@ public final class BoundariesOfPromisesTest {
         int of(ChairLeague x, int chair);
     }
 
+    /** Who sits on chair 0 first comes to be asked by chair 1 later, and leaves. */
+    private static void dueLeft(Way way) {
+        ChairLeague x = Check.league("h05;h05;h05;m050;m060;s1:0;b0=1;c4");
+        check.due("the next one", way.of(x, 0), 1);
+        check.due("the one who chooses", way.of(x, 1), 0);
+        check.due("nobody else", way.of(x, 2), NOTHING);
+        check.due("now another has come", Check.run(x, "m040"), 1);
+        check.due("the last one", way.of(x, 2), 2);
+        // Chair 1 asks 1 ahead of 0, who sits on chair 0 by then.
+        x = Check.league("h05;h15;m050;s1:0;b0=1;c4;r0;m159;m080");
+        check.due("who is left asks on", way.of(x, 0), 2);
+        check.due("for the greater comfort", way.of(x, 1), 0);
+    }
+
     private static void dueWay(Way way) {
         check.due("none there", way.of(new ChairLeague(), 0), NONE);
         check.due("no musicians", way.of(Check.league("h05"), 0), NOTHING);
@@ -332,12 +365,7 @@ public final class BoundariesOfPromisesTest {
     private static void would() {
         sentence(10, "Returns whom a chair would have if a season began now: chair by chair, the "
                 + "lowest that can ask first.");
-        ChairLeague x = Check.league("h05;h05;h05;m050;m060;s1:0;b0=1;c4");
-        check.due("chair 0", x.would(0), 1);
-        check.due("chair 1", x.would(1), 0);
-        check.due("chair 2", x.would(2), NOTHING);
-        check.due("now another has come", Check.run(x, "m040"), 1);
-        check.due("chair 2", x.would(2), 2);
+        dueLeft(ChairLeague::would);
 
         sentence(10, "Returns the musician, NOTHING if it would have none; NONE if there is no such "
                 + "chair.");
@@ -347,13 +375,7 @@ public final class BoundariesOfPromisesTest {
     private static void wouldAgain() {
         sentence(11, "Returns the same by a second way: in rounds, in each of which all chairs that "
                 + "can ask do at once, and musicians choose.");
-        // Three ask the same one at once, who chooses; then the two that were left ask on.
-        ChairLeague x = Check.league("h05;h05;h05;m050;m060;s1:0;b0=1;c4");
-        check.due("chair 0", x.wouldAgain(0), 1);
-        check.due("chair 1", x.wouldAgain(1), 0);
-        check.due("chair 2", x.wouldAgain(2), NOTHING);
-        check.due("now another has come", Check.run(x, "m040"), 1);
-        check.due("chair 2", x.wouldAgain(2), 2);
+        dueLeft(ChairLeague::wouldAgain);
 
         sentence(11, "Returns the musician, NOTHING if it would have none; NONE if there is no such "
                 + "chair.");
@@ -461,6 +483,14 @@ public final class BoundariesOfPromisesTest {
     }
 
     private static void lasts() {
+        sentence(16, "Returns how many concerts of a weight could be given one after the other "
+                + "before a stand falls.");
+        for (int weight = 1; weight <= 4; weight++) {
+            dueLastsAsGiven("h09;h15;h24;h31;m080;m170;m210;m310;a", weight);
+            dueLastsAsGiven("h09;h15;h24;h31;m090;m140;m230;m310;a;p1", weight);
+            dueLastsAsGiven("h05;m050;a", weight);
+        }
+
         sentence(16, "Returns how many, 0 if one falls in the first; BAD if the weight is out of "
                 + "range; NOTHING if none would ever fall.");
         check.due("0", new ChairLeague().lasts(0), BAD);
@@ -477,13 +507,18 @@ public final class BoundariesOfPromisesTest {
         dueLasts("h05;m050;a;p4;p4", NOTHING, NOTHING, NOTHING, 0);
         dueLasts("h05;h15;m050;m140;s0:0;p4;s1:1", 2, 1, 0, 0);
         dueLasts("h05;h15;m040;m150;a;p4;p4;u0;m040", NOTHING, NOTHING, NOTHING, 0);
-        // As many as are given, and then one falls.
-        ChairLeague x = Check.league("h05;m040;a");
-        check.due("two", x.lasts(1), 2);
-        concerts(x, 1, 2);
-        check.due("none has fallen", x.account(3), 0);
-        x.concert(1);
-        check.due("one has", x.account(3), 1);
+    }
+
+    /** As many concerts can be given, and in the next one a stand falls. */
+    private static void dueLastsAsGiven(String text, int weight) {
+        ChairLeague x = Check.league(text);
+        int due = x.lasts(weight);
+        int concerts = 0;
+        for (int k = 0; k < 20; k++) {
+            x.concert(weight);
+            concerts += x.account(3) == 0 ? 1 : 0;
+        }
+        check.due(text + ": lasts(" + weight + ")", due, concerts == 20 ? NOTHING : concerts);
     }
 
     private static void raise() {
@@ -558,6 +593,11 @@ public final class BoundariesOfPromisesTest {
         check.due("one mark more", x.ranked(0), 1);
         check.due("one mark less", x.ranked(1), 0);
 
+        sentence(20, "the place, from 0");
+        check.due("the first", x.ranked(0), 1);
+        check.due("the last", x.ranked(1), 0);
+        check.due("one", Check.league("h05").ranked(0), 0);
+
         sentence(20, "Returns the chair; NONE if there is no such place.");
         check.due("no chairs", new ChairLeague().ranked(0), NONE);
         check.due("-1", x.ranked(-1), NONE);
@@ -577,6 +617,10 @@ public final class BoundariesOfPromisesTest {
         x = Check.league("h05;m050;m050;s0:1;p1;r1;s0:0");
         check.due("the most coins", x.richest(0), 1);
         check.due("who sits", x.richest(1), 0);
+        // One coin more: 12 of one who does not sit, and 11.
+        x = Check.league("h05;h05;m150;m050;s0:0;s1:1;p1;r1");
+        check.due("12", x.richest(0), 1);
+        check.due("11", x.richest(1), 0);
         x = tenAndTen();
         for (int place = 0; place < 10; place++) {
             check.due("nobody sits", x.richest(place), place);
@@ -585,6 +629,11 @@ public final class BoundariesOfPromisesTest {
         for (int place = 0; place < 10; place++) {
             check.due("all sit", x.richest(place), place);
         }
+
+        sentence(21, "the place, from 0");
+        check.due("the first", x.richest(0), 0);
+        check.due("the second", x.richest(1), 1);
+        check.due("one", Check.league("m050").richest(0), 0);
 
         sentence(21, "Returns the musician; NONE if there is no such place.");
         check.due("no musicians", new ChairLeague().richest(0), NONE);
@@ -685,6 +734,7 @@ public final class BoundariesOfPromisesTest {
         check.line("a bid of 1, and of 0", x, x.tellMusicians(), "2$8 .$0 0$12!1");
         x.tell(0);
         check.line("one", Check.league("m050"), y -> y.tellMusicians(), ".$8");
+        numbersTold();
 
         sentence(25, "Returns the length of the line.");
         check.due("nobody", new ChairLeague().tellMusicians(), 0);
@@ -701,6 +751,28 @@ public final class BoundariesOfPromisesTest {
         check.due("behind it", x.character(79), NONE);
     }
 
+    /** Coins and bids of one digit and of two, with each number that a line can have. */
+    private static void numbersTold() {
+        for (int step = 2; step <= 4; step++) {
+            String[] leagues = {"h05;m180;a", "h05;m080;a", "h05;m050;a"};
+            ChairLeague x = Check.league(leagues[step - 2]);
+            for (int coins = 8; coins < 99; coins = Math.min(coins + step, 99)) {
+                check.line("coins", x, x.tellMusicians(), "0$" + coins);
+                x.concert(1);
+            }
+            check.line("coins", x, x.tellMusicians(), "0$99");
+        }
+        ChairLeague x = Check.league("h05;m050;a");
+        concerts(x, 1, 23);
+        for (int bid = 1; bid < 100; bid++) {
+            x.bid(0, bid);
+            x.tellMusicians();
+            int length = bid > 9 ? 7 : 6;
+            check.due("the tens of " + bid, length == 7 ? x.character(5) - '0' : 0, bid / 10);
+            check.due("the ones of " + bid, x.character(length - 1) - '0', bid % 10);
+        }
+    }
+
     private static void character() {
         sentence(26, "Returns a character of the line, which is empty at first.");
         ChairLeague x = Check.league("h37");
@@ -710,6 +782,10 @@ public final class BoundariesOfPromisesTest {
         for (int index = 0; index < line.length(); index++) {
             check.due("character " + index, x.character(index), line.charAt(index));
         }
+
+        sentence(26, "the index, from 0");
+        check.due("the first", x.character(0), '0');
+        check.due("the second", x.character(1), 's');
 
         sentence(26, "Returns the code of the character; NONE if there is none.");
         check.due("the first", x.character(0), '0');
@@ -727,6 +803,15 @@ public final class BoundariesOfPromisesTest {
     }
 
     private static void reason() {
+        sentence(27, "Returns the latest reason, or one that stands behind it, or a detail.");
+        ChairLeague y = Check.league("h05;m051;m190");
+        check.refused("the first", y, y.rise(0), 8, 0);
+        check.refused("a later one", y, y.seat(0, 1), 2, 1, 6, 5);
+        check.refused("a later one", y, Check.run(y, "a;s0:0"), 15, 1, 2, 0, 7, 0);
+        check.refused("a later one", y, y.promote(0), 14, 20);
+        check.due("a success", y.season(), 0);
+        check.reasons("is still the latest", y, 14, 20);
+
         sentence(27, "0 for the reason, 1 for the one behind it, 2 for the one behind that");
         ChairLeague x = Check.league("h05;m051");
         check.due("run", Check.run(x, "s0:0"), REFUSED);
@@ -736,6 +821,10 @@ public final class BoundariesOfPromisesTest {
         check.due("the detail of 0", x.reason(0, true), 0);
         check.due("the detail of 1", x.reason(1, true), 0);
         check.due("the detail of 2", x.reason(2, true), 0);
+        check.due("run", Check.run(x, "a;m190;s0:1"), REFUSED);
+        check.due("the detail of 0", x.reason(0, true), 2);
+        check.due("the detail of 1", x.reason(1, true), 1);
+        check.due("the detail of 2", x.reason(2, true), 5);
 
         sentence(27, "Returns the number; BAD if the depth is not from 0 to 2; NOTHING if nothing "
                 + "was refused, or none stands there.");
@@ -875,6 +964,19 @@ public final class BoundariesOfPromisesTest {
     }
 
     private static void undo() {
+        sentence(32, "Undoes the latest change.");
+        ChairLeague y = Check.league("h05;m050", "a", "p1");
+        y.bid(0, 13);
+        y.lasts(1);
+        check.due("the concert", y.undo(), 2);
+        check.due("the concert", y.account(9), 0);
+        check.due("the season stays", y.account(10), 1);
+        y.rise(0);
+        check.due("the rise", y.undo(), 2);
+        check.due("the rise", y.musicianOf(0, 5), 0);
+        check.due("the season", y.undo(), 1);
+        check.due("the season", y.musicianOf(0, 5), NOTHING);
+
         sentence(32, "Returns the number of changes that can still be undone; NOTHING if there is "
                 + "none.");
         ChairLeague x = new ChairLeague();
@@ -914,6 +1016,24 @@ public final class BoundariesOfPromisesTest {
         Check.run(x, "a;p1;h11");
         x.restore();
         check.due("as saved later", later.equals(Check.allOf(x)) ? 1 : 0, 1);
+        x = Check.league("h37;m370;a");
+        concerts(x, 1, 24);
+        check.due("lost", x.account(8), 5);
+        all = Check.allOf(x);
+        x.save();
+        concerts(x, 1, 2);
+        check.due("lost", x.account(8), 13);
+        x.restore();
+        check.due("all as it was", all.equals(Check.allOf(x)) ? 1 : 0, 1);
+        // Others come in the place of those who were saved.
+        x = Check.league("h37", "m268");
+        all = Check.allOf(x);
+        x.save();
+        x.undo();
+        x.undo();
+        Check.run(x, "h01;m010");
+        x.restore();
+        check.due("all as it was", all.equals(Check.allOf(x)) ? 1 : 0, 1);
 
         sentence(33, "Returns the chairs.");
         check.due("none", new ChairLeague().save(), 0);
