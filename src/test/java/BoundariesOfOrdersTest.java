@@ -585,6 +585,7 @@ public final class BoundariesOfOrdersTest {
         // Nobody else is there: the chair that was left stays empty.
         dueWould("nobody else", Check.league("h05;h05;m050;s1:0;b0=1;c4"), ".0");
         dueWould("not borne", Check.league("h05;m051"), ".");
+        mostAsked();
 
         sentence("A fallen chair can have no musician.");
         ChairLeague x = Check.league("h09;m080;m050;a");
@@ -593,6 +594,27 @@ public final class BoundariesOfOrdersTest {
         check.refused("another", x, x.seat(0, 1), 2, 1, 3, 1);
         dueWould("in a season", x, ".");
         check.due("sitting", x.account(2), 0);
+    }
+
+    private static void mostAsked() {
+        // Ten chairs ask ten musicians each: the hundredth that is asked, 9 by chair 9, sits down.
+        String nine = "m059;m059;m059;m059;m059;m059;m059;m059;m059";
+        String chairs = "h05;h05;h05;h05;h05;h05;h05;h05;h05;h05";
+        ChairLeague x = Check.league(chairs, nine + ";m050", "s9:9;b9=1;c1");
+        dueWould("the hundredth", x, ".........9");
+        x = Check.league(chairs, nine + ";m059");
+        dueWould("a hundred in vain", x, "..........");
+        // In rounds, somebody sits down as late as in the 43rd.
+        x = Check.league("h06;h07;h35;h17;h25;h37;h37;h37;h38;h36",
+                "m379;m360;m380;m241;m176;m376;m322;m379", "m352;m050");
+        int[] cushions = {4, 1, 7, 6, 4, 9, 8, 8, 7, 8};
+        for (int chair = 0; chair < 10; chair++) {
+            check.due("seat", x.seat(chair, 9), 1);
+            x.bid(9, 1);
+            check.due("sell", x.sell(cushions[chair]), 0);
+            x.rise(9);
+        }
+        dueWould("43 rounds", x, "3.29605148");
     }
 
     private static void otherDoubts() {

@@ -621,6 +621,15 @@ public final class BoundariesOfPromisesTest {
         x = Check.league("h05;h05;m150;m050;s0:0;s1:1;p1;r1");
         check.due("12", x.richest(0), 1);
         check.due("11", x.richest(1), 0);
+        // No coins: 0 has paid all 8, and sits, or does not.
+        x = Check.league("h05;h05;m050;m050;a;b0=8;b1=8;c1");
+        check.due("8", x.richest(0), 1);
+        check.due("0, who sits", x.richest(1), 0);
+        x.rise(0);
+        check.due("0, who does not", x.richest(1), 0);
+        x = tenAndTen();
+        Check.run(x, "a;b0=8;b1=8;c1;r0");
+        check.due("0, the last of ten", x.richest(9), 0);
         x = tenAndTen();
         for (int place = 0; place < 10; place++) {
             check.due("nobody sits", x.richest(place), place);
